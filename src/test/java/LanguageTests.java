@@ -1,0 +1,110 @@
+import java.lang.reflect.Method;
+import java.lang.reflect.Modifier;
+import java.nio.file.Files;
+import java.nio.file.Path;
+import java.util.ArrayList;
+import java.util.Arrays;
+import java.util.List;
+import java.util.TreeSet;
+import java.util.regex.Matcher;
+import java.util.regex.Pattern;
+
+/** What of LANGUAGE.md can be seen in the text and in the compiled class. */
+final class LanguageTests {
+    private static final String FACE = "int island() int ship(int) int man(int,int,int) int type(int) int clear() int read() "
+        + "int calls(int) int boards(int,int) int undo() int of(int,int) int about(int,int) int left(int) int needs(int,int) "
+        + "int far(int) int behind(int,int) int lasts(int,int) int few(int,int) int crew(int,int) int seen(int,int,int,int) "
+        + "int skilled(int,int) int tell(int) int note(int,int,int,int) int mark(int,int,int,int) int forget(int) int is(int) "
+        + "int look(int) int kinds(int) int ask(int) int water(int,int,int) int lots(int,int) int centuries(int,int) "
+        + "long part(int) int image(int) int from(int) int status(int) int count(int) long digest()";
+    private static final String[] FORBIDDEN = {"throw", "throws", "try", "catch", "finally", "synchronized", "assert",
+        "import", "package", "instanceof", "->", "::", "System.out", "Random", "Thread", "equals", "hashCode", "toString",
+        "record", "enum", "volatile", "native", "var", "protected"};
+
+    private LanguageTests() {
+    }
+
+    static void run(String path) throws Exception {
+        String source = Files.readString(Path.of(path)).replaceAll("(?s)/\\*.*?\\*/", "").replaceAll("//[^\n]*", "");
+        face();
+        forbidden(source);
+        classes();
+        methods(source);
+        objects(source);
+    }
+
+    private static void face() {
+        TreeSet<String> due = new TreeSet<>(Arrays.asList(FACE.split("(?<=\\)) ")));
+        TreeSet<String> got = new TreeSet<>();
+        TreeSet<String> names = new TreeSet<>();
+        List<Method> others = new ArrayList<>();
+        for (Method m : LeftBehind.class.getDeclaredMethods()) {
+            if (Modifier.isPublic(m.getModifiers())) {
+                String told = Arrays.toString(Arrays.stream(m.getParameterTypes()).map(Class::getName).toArray());
+                got.add(m.getReturnType() + " " + m.getName() + "(" + told.replaceAll("[\\[\\] ]", "") + ")");
+                names.add(m.getName());
+            } else {
+                others.add(m);
+            }
+        }
+        Check.holds("the face: " + got, got.equals(due));
+        for (Class<?> c : LeftBehind.class.getDeclaredClasses()) {
+            others.addAll(Arrays.asList(c.getDeclaredMethods()));
+            Check.holds(c + " is static", Modifier.isStatic(c.getModifiers()));
+        }
+        for (Method m : others) {
+            Check.holds(m + " has a name of its own", !names.contains(m.getName()));
+            Check.holds(m + " has seven parameters at most", m.getParameterCount() <= 7);
+        }
+        Check.due("constructors", LeftBehind.class.getDeclaredConstructors().length, 1);
+        Check.due("public fields", LeftBehind.class.getFields().length, 4);
+    }
+
+    private static void forbidden(String source) {
+        for (String word : FORBIDDEN) {
+            String pattern = word.matches("\\w+") ? "\\b" + word + "\\b" : Pattern.quote(word);
+            Check.holds("no " + word, !Pattern.compile(pattern).matcher(source).find());
+        }
+        Check.holds("signs 1 to 127", source.chars().allMatch(c -> c >= 1 && c <= 127));
+    }
+
+    private static void classes() {
+        Class<?>[] inside = LeftBehind.class.getDeclaredClasses();
+        Check.holds("twelve classes at most", inside.length + 1 <= 12);
+        List<Class<?>> all = new ArrayList<>(Arrays.asList(inside));
+        all.add(LeftBehind.class);
+        for (Class<?> c : all) {
+            long own = Arrays.stream(c.getDeclaredFields()).filter(f -> !Modifier.isStatic(f.getModifiers())).count();
+            Check.holds(c + " has twenty fields at most", own <= 20);
+            boolean fixed = Arrays.stream(c.getDeclaredFields())
+                .filter(f -> Modifier.isStatic(f.getModifiers())).allMatch(f -> Modifier.isFinal(f.getModifiers()));
+            Check.holds(c + " has no static state", fixed);
+        }
+    }
+
+    private static void methods(String source) {
+        int began = 0;
+        String name = "";
+        String[] lines = source.split("\n");
+        for (int i = 0; i < lines.length; i++) {
+            if (lines[i].matches("( {4}){1,2}(public |private |static )*[\\w\\[\\]]+ ?\\w*\\(.*\\) \\{")) {
+                began = i;
+                name = lines[i].trim();
+            }
+            if (lines[i].matches("( {4}){1,2}\\}")) {
+                Check.holds(name + " is short", i - began <= 60);
+            }
+        }
+    }
+
+    /** Rows are made by constructors alone: no call makes an object. */
+    private static void objects(String source) {
+        Matcher made = Pattern.compile("[^\n]*\\bnew\\b[^\n]*").matcher(source);
+        while (made.find()) {
+            String line = made.group().trim();
+            boolean inConstructor = line.startsWith("images[i] =") || line.startsWith("this.cells =");
+            Check.holds("made by a constructor: " + line, inConstructor || line.matches("(private )?final .*"));
+        }
+        Check.holds("nor a copy", !source.contains("clone()") && !source.contains("Arrays."));
+    }
+}
