@@ -57,6 +57,7 @@ final class IslandTests {
 
     private static void island() {
         LeftBehind x = full();
+        x.calls(0);
         x.image(0);
         x.ship(9);
         long kept = x.digest();
@@ -189,6 +190,9 @@ final class IslandTests {
         faults(" ", 1);
         faults("isl", 0);
         faults("islands;", 0);
+        faults("jsland;", 0);
+        faults("islanz;", 0);
+        faults("island;thip 0;", 7);
         faults("Island;", 0);
         faults("ship 0;", 0);
         faults(" ;island;", 1);
@@ -263,5 +267,9 @@ final class IslandTests {
         Check.due("read: status stays", x.status(0), 1);
         x.from(1);
         Check.due("read: images stay", x.digest(), before);
+        x.clear();
+        type(x, "island;");
+        Check.due("read: an empty island", x.read(), 1);
+        Check.due("read: nobody is there", x.count(0) + x.count(1), 0);
     }
 }

@@ -49,6 +49,9 @@ final class KeepingTests {
         x.forget(0);
         x.forget(1);
         x.forget(2);
+        x.seen(0, 9, 9, 0);
+        x.note(0, 1, 1, 1);
+        x.mark(0, 1, 1, 1);
         x.calls(1);
         x.ship(0);
         x.man(1, 1, 0);

@@ -15,6 +15,7 @@ final class LeftTests {
         fewFirstWay();
         crew();
         crewFirstWay();
+        crewOfAll();
         crewHarm();
         nothingIsChanged();
     }
@@ -150,6 +151,10 @@ final class LeftTests {
         Check.due("few: the first way of two, 0", x.few(6, 0), 0);
         Check.due("few: the first way of two, 1", x.few(6, 1), 1);
         Check.due("few: the first way of two, 2", x.few(6, 2), 1);
+        LeftBehind z = IslandTests.told("island;ship 0;ship 0;ship 0;man 0 5 0;man 0 5 2;");
+        for (int h = 0; h < 3; h++) {
+            Check.due("few: who has nobody makes none, " + h, z.few(10, h), h == 1 ? 0 : 1);
+        }
         LeftBehind y = new LeftBehind();
         y.ship(0);
         for (int m = 0; m < 8; m++) {
@@ -195,6 +200,21 @@ final class LeftTests {
         Check.due("crew: plain takes 2", y.crew(1, 0), 2);
         Check.due("crew: the brig takes 6", y.crew(1, 1), 0);
         Check.due("crew: the sloop takes 1", y.crew(1, 2), 1);
+    }
+
+    private static void crewOfAll() {
+        LeftBehind x = IslandTests.told("island;ship 0;");
+        for (int m = 0; m < 8; m++) {
+            x.man(0, 1, -1);
+        }
+        Check.due("crew: all must go", x.crew(4, -1), 1);
+        for (int m = 0; m < 8; m++) {
+            Check.due("crew: all must go, man " + m, x.crew(4, m), 0);
+            Check.due("crew: the last two are enough, man " + m, x.crew(1, m), m < 6 ? NONE : 0);
+        }
+        LeftBehind y = IslandTests.told("island;ship 0;ship 0;man 0 4 0;man 0 4 9;");
+        Check.due("crew: one sails as she is", y.crew(2, -1), 2);
+        Check.due("crew: so all go to the other", y.crew(2, 1), 1);
     }
 
     /** One more aboard may hinder a packet, and a boat: nobody goes where he is no use. */

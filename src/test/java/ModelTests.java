@@ -1,9 +1,14 @@
+import java.lang.reflect.Method;
+import java.lang.reflect.Modifier;
+import java.util.Arrays;
 import java.util.Random;
 
 /** Random runs (of seeds told here, so always the same) of the class beside the model. */
 final class ModelTests {
     private static final int RUNS = 1500;
     private static final int CALLS = 170;
+    private static final Integer[] EDGES = {
+        Integer.MIN_VALUE, -2, -1, 0, 1, 2, 3, 5, 6, 7, 8, 9, 10, 30, 31, 72, 73, 99, 100, 127, 128, Integer.MAX_VALUE};
 
     private final Random random;
     private final LeftBehind x = new LeftBehind();
@@ -15,10 +20,32 @@ final class ModelTests {
         this.random = new Random(run);
     }
 
-    static void run() {
+    static void run() throws ReflectiveOperationException {
         for (int run = 0; run < RUNS; run++) {
             new ModelTests(run).go();
         }
+        for (Method call : LeftBehind.class.getDeclaredMethods()) {
+            if (Modifier.isPublic(call.getModifiers())) {
+                new ModelTests(RUNS).edges(call);
+            }
+        }
+    }
+
+    /** Each call with each of the numbers about its ends, and the ends of all numbers, in each place. */
+    private void edges(Method call) throws ReflectiveOperationException {
+        Method other = Model.class.getDeclaredMethod(call.getName(), call.getParameterTypes());
+        settle();
+        Object[] told = new Object[call.getParameterCount()];
+        int ways = (int) Math.pow(EDGES.length, Math.min(3, told.length));
+        for (int way = 0; way < ways; way++) {
+            for (int i = 0, rest = way; i < told.length; i++, rest /= EDGES.length) {
+                told[i] = i < 3 ? EDGES[rest % EDGES.length] : EDGES[(way + i) % EDGES.length];
+            }
+            String what = call.getName() + Arrays.toString(told);
+            due(what, ((Number) call.invoke(x, told)).longValue(), ((Number) other.invoke(model, told)).longValue());
+            due("status(0) behind " + what, x.status(0), model.status(0));
+        }
+        due("digest() behind " + call.getName(), x.digest(), model.digest());
     }
 
     private void go() {

@@ -91,7 +91,11 @@ final class SkillTests {
         Check.due("tell: no skill", x.tell(0), NONE);
         x.seen(2, 0, 16, 0);
         Check.due("tell: a captain of 8 and 9", x.tell(2), 17);
-        Check.due("tell man 3", x.tell(3), BAD);
+        x.man(4, 1, -1);
+        x.forget(0);
+        x.seen(3, 3, 7, 0);
+        Check.due("tell: Cadiz of 8 and 9", x.tell(3), 308);
+        Check.due("tell man 4", x.tell(4), BAD);
         Check.due("tell man -1", x.tell(-1), BAD);
         Check.due("tell: refused", x.status(0), 2);
     }
@@ -290,6 +294,12 @@ final class SkillTests {
         for (int n = 0; n < due.length; n++) {
             Check.due("centuries of 0, " + n, x.centuries(0, n), due[n]);
         }
+        x.lasts(1, 1);
+        Check.due("centuries: from what is now", x.centuries(0, 0), 8);
+        LeftBehind z = IslandTests.told("island;ship 0;ship 0;man 0 5 1;");
+        Check.due("centuries: who is aboard boards no other", z.centuries(0, 2), 0);
+        LeftBehind y = IslandTests.told("island;ship 0;man 0 5 0;");
+        Check.due("centuries: 8 is a call", y.centuries(11, 1), 5);
         Check.due("centuries seed -1", x.centuries(-1, 0), BAD);
         Check.due("centuries seed 1000000", x.centuries(1000000, 0), BAD);
         Check.due("centuries n -1", x.centuries(0, -1), BAD);
