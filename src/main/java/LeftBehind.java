@@ -1033,15 +1033,16 @@ public final class LeftBehind {
         private int found = 0;
 
         void find(Isle isle, int d) {
-            int ashore = isle.bitsAt(NONE);
+            int ashore = isle.bitsAt(NONE) & (SETS - 1);
             for (int set = 0; set < SETS; set++) {
                 best[set] = 0;
             }
             for (int h = 0; h < isle.ships; h++) {
                 weighSets(isle, h, d, ashore);
-                addShipToBest(ashore);
+                boolean last = h == isle.ships - 1;
+                addShipToBest(ashore, last ? ashore : 0);
             }
-            found = best[ashore & (SETS - 1)];
+            found = best[ashore];
         }
 
         int sailing() {
@@ -1085,9 +1086,12 @@ public final class LeftBehind {
             return way;
         }
 
-        /** Greatest sets first: a set's best looks at its subsets' bests as they were without this ship. */
-        private void addShipToBest(int ashore) {
-            for (int set = SETS - 1; set >= 0; set--) {
+        /**
+         * Greatest sets first: a set's best looks at its subsets' bests as they were without this ship.
+         * No set below the least is asked for again: behind the last ship only that of all is.
+         */
+        private void addShipToBest(int ashore, int least) {
+            for (int set = ashore; set >= least; set--) {
                 if ((set & ~ashore) == 0) {
                     best[set] = bestSplit(set);
                 }
@@ -1098,7 +1102,10 @@ public final class LeftBehind {
             int most = best[set] + worth[0];
             int aboard = set;
             for (int i = 0; i < SETS && aboard > 0; i++) {
-                most = Math.max(most, worth[aboard] + best[set ^ aboard]);
+                int split = worth[aboard] + best[set ^ aboard];
+                if (split > most) {
+                    most = split;
+                }
                 aboard = (aboard - 1) & set;
             }
             return most;
