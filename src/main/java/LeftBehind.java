@@ -903,21 +903,17 @@ public final class LeftBehind {
                 start++;
             }
             token = kindAt(start);
-            end = start;
-            if (token == CLOSE || token == WRONG) {
+            end = token == CLOSE || token == WRONG ? start + 1 : start;
+            boolean goesOn = token == WORD || token == NUMBER;
+            while (goesOn && end < length && kindAt(end) == token) {
                 end++;
-            } else {
-                passRun();
+            }
+            if (token == NUMBER) {
+                weighFigures();
             }
         }
 
-        private void passRun() {
-            while (end < length && kindAt(end) == token) {
-                end++;
-            }
-            if (token != NUMBER) {
-                return;
-            }
+        private void weighFigures() {
             value = 0;
             for (int i = start; i < start + 2 && i < end; i++) {
                 value = 10 * value + bytes[i] - '0';

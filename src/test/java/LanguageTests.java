@@ -1,3 +1,4 @@
+import java.io.IOException;
 import java.lang.reflect.Method;
 import java.lang.reflect.Modifier;
 import java.nio.file.Files;
@@ -5,6 +6,8 @@ import java.nio.file.Path;
 import java.util.ArrayList;
 import java.util.Arrays;
 import java.util.List;
+import java.util.Map;
+import java.util.TreeMap;
 import java.util.TreeSet;
 import java.util.regex.Matcher;
 import java.util.regex.Pattern;
@@ -21,6 +24,9 @@ final class LanguageTests {
         "import", "package", "instanceof", "->", "::", "System.out", "Random", "Thread", "equals", "hashCode", "toString",
         "record", "enum", "volatile", "native", "var", "protected"};
 
+    private static final String LIBRARY = "java/lang/Object\\.<init>.*|java/lang/Integer\\.bitCount.*|java/lang/Math\\.(min|max|abs)\\(.*"
+        + "|java/lang/System\\.arraycopy.*|java/lang/String\\.(length|charAt)\\(.*";
+
     private LanguageTests() {
     }
 
@@ -31,6 +37,8 @@ final class LanguageTests {
         classes();
         methods(source);
         objects(source);
+        library();
+        depth();
     }
 
     private static void face() {
@@ -106,5 +114,47 @@ final class LanguageTests {
             Check.holds("made by a constructor: " + line, inConstructor || line.matches("(private )?final .*"));
         }
         Check.holds("nor a copy", !source.contains("clone()") && !source.contains("Arrays."));
+    }
+
+    private static List<Class<?>> allClasses() {
+        List<Class<?>> all = new ArrayList<>(Arrays.asList(LeftBehind.class.getDeclaredClasses()));
+        all.add(LeftBehind.class);
+        return all;
+    }
+
+    /** Rule 4: what of the library is called. */
+    private static void library() throws IOException {
+        for (Class<?> c : allClasses()) {
+            for (String called : new Bytecode(c).called()) {
+                boolean own = called.startsWith("LeftBehind");
+                Check.holds("rule 4: " + c.getName() + " calls " + called, own || called.matches(LIBRARY));
+            }
+        }
+    }
+
+    /** Rules 8 and 11: calls go at most eight deep, the public method counted, and none calls itself. */
+    private static void depth() throws IOException {
+        Map<String, List<String>> calls = new TreeMap<>();
+        for (Class<?> c : allClasses()) {
+            calls.putAll(new Bytecode(c).calls());
+        }
+        Check.holds("the face's calls are seen", calls.containsKey("LeftBehind.read()I"));
+        for (String method : calls.keySet()) {
+            int deep = depth(calls, method, 1);
+            Check.holds("rule 11: " + method + " goes " + deep + " deep", deep <= 8);
+        }
+    }
+
+    private static int depth(Map<String, List<String>> calls, String method, int above) {
+        int deepest = above;
+        if (above > 8) {
+            return deepest;
+        }
+        for (String called : calls.getOrDefault(method, List.of())) {
+            if (calls.containsKey(called)) {
+                deepest = Math.max(deepest, depth(calls, called, above + 1));
+            }
+        }
+        return deepest;
     }
 }
