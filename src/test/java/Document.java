@@ -2,6 +2,7 @@ import java.io.IOException;
 import java.nio.file.Files;
 import java.nio.file.Path;
 import java.util.ArrayList;
+import java.util.Arrays;
 import java.util.LinkedHashMap;
 import java.util.List;
 import java.util.Map;
@@ -39,7 +40,7 @@ final class Document {
         int at = text.indexOf(words);
         boolean found = at >= 0;
         while (at >= 0) {
-            java.util.Arrays.fill(quoted.get(section), at, at + words.length(), true);
+            Arrays.fill(quoted.get(section), at, at + words.length(), true);
             at = text.indexOf(words, at + 1);
         }
         return found;

@@ -3,6 +3,10 @@ import java.util.function.Supplier;
 
 /** Promises 20 to 32, and their terms, sentence by sentence: seen to centuries. */
 final class SkillEdges extends Edge {
+    private static final BigInteger TIMES = BigInteger.valueOf(1103515245);
+    private static final BigInteger MORE = BigInteger.valueOf(12345);
+    private static final BigInteger OVER = BigInteger.valueOf(2147483648L);
+
     private SkillEdges() {
     }
 
@@ -526,10 +530,6 @@ final class SkillEdges extends Edge {
             due("all", x.centuries(0, 0), 72);
         });
     }
-
-    private static final BigInteger TIMES = BigInteger.valueOf(1103515245);
-    private static final BigInteger MORE = BigInteger.valueOf(12345);
-    private static final BigInteger OVER = BigInteger.valueOf(2147483648L);
 
     /** Does with calls and boards what n steps of the seed do; what can not be done is refused. */
     private static LeftBehind lived(Supplier<LeftBehind> build, int seed, int n) {
