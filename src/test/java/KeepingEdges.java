@@ -10,6 +10,7 @@ final class KeepingEdges extends Edge {
     static void run() {
         at("Terms");
         images();
+        imagesKeepRows();
         imagesKeepNot();
         imagesKeepSteps();
         status();
@@ -76,6 +77,10 @@ final class KeepingEdges extends Edge {
             x.from(0);
             due(x.count(0) + x.count(1), 0);
         });
+    }
+
+    private static void imagesKeepRows() {
+        String words = "IMAGES 0, 1 keep all but them, THE TEXT, THE FRACTION and STATUS;";
         test(words, "each row as it was, though others took its place", () -> {
             LeftBehind x = crowded();
             long kept = x.digest();

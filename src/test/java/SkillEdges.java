@@ -22,6 +22,8 @@ final class SkillEdges extends Edge {
         water();
         lots();
         centuries();
+        centuriesShips();
+        centuriesDoings();
         centuriesStepByStep();
         at("Promise 20: seen");
         seenRefused();
@@ -450,6 +452,9 @@ final class SkillEdges extends Edge {
             due("n 60 of 999999", crowded().centuries(999999, 60), lived(Edge::crowded, 999999, 60).count(3));
             bad(Edge::busy, y -> y.centuries(-1, 0), y -> y.centuries(1000000, 0), y -> y.centuries(0, -1), y -> y.centuries(0, 61));
         });
+    }
+
+    private static void centuriesShips() {
         String ship = "SHIP X by 65536 (cut), by 3 left over (not there: nothing), with Y as X by 1048576 (cut), by 16 left over:";
         test(ship, "ship 1 of one, calling and boarding", () -> {
             LeftBehind x = plain(aboard(9));
@@ -486,6 +491,9 @@ final class SkillEdges extends Edge {
             due("Y 5, nothing over", x.centuries(501379, 1), 18 - 5);
             due("Y 0, 1048575 over", x.centuries(899870, 1), 18 - 9);
         });
+    }
+
+    private static void centuriesDoings() {
         String calling = "Y 8 or more: CALLS, if somebody is ABOARD;";
         test(calling, "8 and 15", () -> {
             due("8", plain(aboard(9, 4)).centuries(11, 1), 4);

@@ -21,6 +21,7 @@ final class TextEdges extends Edge {
         faultOfBytes();
         faultOfTheEnd();
         whatIsRead();
+        whatIsNotRead();
     }
 
     private static void reads(String text, int items) {
@@ -543,6 +544,9 @@ final class TextEdges extends Edge {
             x.read();
             due(100 * x.status(0) + 10 * x.status(1) + x.status(2), 111);
         });
+    }
+
+    private static void whatIsNotRead() {
         String none = "(SEEN ones, NOTES, MARKS none; nothing to undo).";
         test(none, "of full rows", () -> {
             LeftBehind x = crowded();
