@@ -1,8 +1,9 @@
+import java.nio.file.Files;
 import java.nio.file.Path;
 
 /**
- * Runs the project's own tests; the arguments are the paths of LeftBehind.java and of DOC.md. With a third one, whatever
- * it is, the tests of the document's sentences alone are run.
+ * Runs the project's own tests; the arguments are the paths of LeftBehind.java, of DOC.md and of README.md. With a
+ * fourth one, whatever it is, the tests of the document's sentences alone are run.
  */
 public final class AllTests {
     private static final long LIMIT_IN_MILLISECONDS = 600_000;
@@ -12,8 +13,8 @@ public final class AllTests {
 
     public static void main(String[] args) throws Exception {
         watch();
-        sentences(args[1]);
-        if (args.length == 2) {
+        sentences(args[0], args[1]);
+        if (args.length == 3) {
             IslandTests.run();
             CallTests.run();
             LeftTests.run();
@@ -21,6 +22,7 @@ public final class AllTests {
             KeepingTests.run();
             ModelTests.run();
             LanguageTests.run(args[0]);
+            ReadmeTests.run(Path.of(args[2]), Path.of(args[0]));
         }
         System.out.println(Check.sum());
         if (Check.anyFailed()) {
@@ -43,8 +45,10 @@ public final class AllTests {
         watch.start();
     }
 
-    private static void sentences(String document) throws java.io.IOException {
+    private static void sentences(String source, String document) throws java.io.IOException {
         Edge.document(Path.of(document));
+        OpeningEdges.run();
+        FaceEdges.run(Files.readString(Path.of(source)));
         TermEdges.run();
         TextEdges.run();
         IslandEdges.run();

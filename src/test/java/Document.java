@@ -27,6 +27,10 @@ final class Document {
         return text.replaceAll("```[a-z]*", " ").replaceAll("\\s+", " ").trim();
     }
 
+    String words(String section) {
+        return sections.getOrDefault(section, "");
+    }
+
     private boolean isThere() {
         return sections.size() > 1;
     }
@@ -46,23 +50,30 @@ final class Document {
         return found;
     }
 
-    /** What of the terms and the promises no test has quoted; what the interface says ahead of calls is no promise. */
+    /** What no test has quoted; what is told to be not promised needs no test. */
     List<String> unquoted() {
         List<String> found = new ArrayList<>();
         for (String section : sections.keySet()) {
-            if (section.equals("Terms") || section.startsWith("Promise ")) {
-                StringBuilder rest = new StringBuilder();
-                String text = sections.get(section);
-                for (int i = 0; i < text.length(); i++) {
-                    rest.append(quoted.get(section)[i] ? '\n' : text.charAt(i));
+            if (isThere() && !section.equals("Not promised") && !section.startsWith("# ")) {
+                for (String line : unquotedOf(section)) {
+                    found.add(section + ": " + line);
                 }
-                String left = rest.toString().replaceAll("^`[^`]*`:", "").replaceAll("======== 2", "")
-                    .replaceAll("Ahead of the calls [^-]* the interface says: ---- [a-z ]*\\.", "");
-                for (String line : left.split("\n")) {
-                    if (line.matches(".*\\w.*")) {
-                        found.add(section + ": " + line.trim());
-                    }
-                }
+            }
+        }
+        return found;
+    }
+
+    private List<String> unquotedOf(String section) {
+        StringBuilder rest = new StringBuilder();
+        String text = sections.get(section);
+        for (int i = 0; i < text.length(); i++) {
+            rest.append(quoted.get(section)[i] ? '\n' : text.charAt(i));
+        }
+        List<String> found = new ArrayList<>();
+        String left = rest.toString().replaceAll("^`[^`]*`:", "").replaceAll("======== [12]", "");
+        for (String line : left.split("\n")) {
+            if (line.matches(".*\\w.*")) {
+                found.add(line.trim());
             }
         }
         return found;

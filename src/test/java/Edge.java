@@ -33,6 +33,18 @@ abstract class Edge {
         Check.holds("each sentence has a test, but: " + left, left.isEmpty());
     }
 
+    /** The words of a section, on one line; none where the document is not there. */
+    static String words(String where) {
+        return document.words(where);
+    }
+
+    /** Words of the section that tell a story and ask nothing of the class, so that no test can hold them. */
+    static void story(String... told) {
+        for (String words : told) {
+            Check.holds(section + ", \"" + words + "\": the words stand there", document.quote(section, words));
+        }
+    }
+
     /** The section of the document that the tests behind this hold. */
     static void at(String where) {
         section = where;
@@ -55,6 +67,14 @@ abstract class Edge {
 
     static void due(long got, long want) {
         Check.due(name, got, want);
+    }
+
+    static void holds(String what, boolean so) {
+        Check.holds(name + ": " + what, so);
+    }
+
+    static void same(String what, Object got, Object want) {
+        Check.holds(name + ": " + what + " is " + got + ", due is " + want, got.equals(want));
     }
 
     // ---- what is refused

@@ -1,10 +1,14 @@
 import java.io.IOException;
+import java.lang.reflect.Array;
+import java.lang.reflect.Field;
 import java.lang.reflect.Method;
 import java.lang.reflect.Modifier;
 import java.nio.file.Files;
 import java.nio.file.Path;
+import java.util.ArrayDeque;
 import java.util.ArrayList;
 import java.util.Arrays;
+import java.util.IdentityHashMap;
 import java.util.List;
 import java.util.Map;
 import java.util.TreeMap;
@@ -34,11 +38,15 @@ final class LanguageTests {
         String source = Files.readString(Path.of(path)).replaceAll("(?s)/\\*.*?\\*/", "").replaceAll("//[^\n]*", "");
         face();
         forbidden(source);
+        loops(source);
         classes();
+        members();
+        types();
         methods(source);
         objects(source);
         library();
         depth();
+        room();
     }
 
     private static void face() {
@@ -74,6 +82,53 @@ final class LanguageTests {
             Check.holds("no " + word, !Pattern.compile(pattern).matcher(source).find());
         }
         Check.holds("signs 1 to 127", source.chars().allMatch(c -> c >= 1 && c <= 127));
+    }
+
+    /** Rule 9: no loop is without a bound of its own. */
+    private static void loops(String source) {
+        Check.holds("rule 9: while", !Pattern.compile("while \\((true|1 == 1|!false)").matcher(source).find());
+        Check.holds("rule 9: for", !Pattern.compile("for \\([^;)]*;\\s*;").matcher(source).find());
+    }
+
+    /** Rules 1 and 2: what is not of the face is private; the classes inside are static, and no other is compiled. */
+    private static void members() {
+        for (Class<?> c : LeftBehind.class.getDeclaredClasses()) {
+            Check.holds("rule 1: " + c + " is not public", (c.getModifiers() & (Modifier.PUBLIC | Modifier.PROTECTED)) == 0);
+            Check.due("rule 1: classes inside " + c, c.getDeclaredClasses().length, 0);
+        }
+        for (Field f : LeftBehind.class.getDeclaredFields()) {
+            Check.holds("rule 1: " + f, Modifier.isPrivate(f.getModifiers()) || Modifier.isPublic(f.getModifiers()));
+        }
+        for (Method m : LeftBehind.class.getDeclaredMethods()) {
+            Check.holds("rule 1: " + m, Modifier.isPrivate(m.getModifiers()) || Modifier.isPublic(m.getModifiers()));
+        }
+        String[] files = Path.of(LeftBehind.class.getProtectionDomain().getCodeSource().getLocation().getPath()).toFile().list();
+        long compiled = Arrays.stream(files).filter(f -> f.startsWith("LeftBehind")).count();
+        Check.due("rule 2: classes compiled", compiled, allClasses().size());
+    }
+
+    /** Rules 3 and 5: the types of fields, arguments and answers. */
+    private static void types() {
+        for (Class<?> c : allClasses()) {
+            for (Field f : c.getDeclaredFields()) {
+                Check.holds("rule 3: " + f, isAllowed(f.getType()));
+                boolean constant = f.getType() == int.class || f.getType() == long.class || f.getType() == String.class;
+                Check.holds("rule 5: " + f, constant || !Modifier.isStatic(f.getModifiers()));
+            }
+            for (Method m : c.getDeclaredMethods()) {
+                Check.holds("rule 3: " + m, m.getReturnType() == void.class || isAllowed(m.getReturnType()));
+                Check.holds("rule 3: " + m, Arrays.stream(m.getParameterTypes()).allMatch(LanguageTests::isAllowed));
+            }
+        }
+    }
+
+    private static boolean isAllowed(Class<?> type) {
+        boolean own = type.getName().startsWith("LeftBehind");
+        if (type.isArray()) {
+            Class<?> of = type.getComponentType();
+            return of.isPrimitive() || of.getName().startsWith("LeftBehind");
+        }
+        return own || type.isPrimitive() || type == String.class;
     }
 
     private static void classes() {
@@ -156,5 +211,45 @@ final class LanguageTests {
             }
         }
         return deepest;
+    }
+
+    /** Rule 12, and README.md: what one object takes of the room; calls take no more of it. */
+    private static void room() throws IllegalAccessException {
+        LeftBehind x = Edge.crowded();
+        Check.due("objects and arrays of one", roomOf(x)[0], 69);
+        Check.due("fields and elements of one", roomOf(x)[1], 1339);
+    }
+
+    static int[] roomOf(Object root) throws IllegalAccessException {
+        Map<Object, Boolean> met = new IdentityHashMap<>();
+        ArrayDeque<Object> open = new ArrayDeque<>(List.of(root));
+        int cells = 0;
+        while (!open.isEmpty()) {
+            Object next = open.pop();
+            if (met.put(next, true) == null) {
+                cells += next.getClass().isArray() ? Array.getLength(next) : instanceFields(next).size();
+                open.addAll(partsOf(next));
+            }
+        }
+        return new int[] {met.size(), cells};
+    }
+
+    private static List<Field> instanceFields(Object of) {
+        return Arrays.stream(of.getClass().getDeclaredFields()).filter(f -> !Modifier.isStatic(f.getModifiers())).toList();
+    }
+
+    private static List<Object> partsOf(Object of) throws IllegalAccessException {
+        List<Object> parts = new ArrayList<>();
+        if (of instanceof Object[] row) {
+            parts.addAll(Arrays.asList(row));
+        } else if (!of.getClass().isArray()) {
+            for (Field f : instanceFields(of)) {
+                f.setAccessible(true);
+                if (!f.getType().isPrimitive()) {
+                    parts.add(f.get(of));
+                }
+            }
+        }
+        return parts;
     }
 }

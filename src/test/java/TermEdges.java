@@ -4,10 +4,6 @@ final class TermEdges extends Edge {
     }
 
     static void run() {
-        at("What it is");
-        use();
-        at("The public face");
-        face();
         at("Terms");
         ships();
         men();
@@ -26,33 +22,6 @@ final class TermEdges extends Edge {
         boarding();
         sailing();
         refusals();
-    }
-
-    private static void use() {
-        test("An object is used for at most 512 calls after it has been made;", "the 512th still answers", () -> {
-            LeftBehind x = bare();
-            for (int i = 1; i < 512; i++) {
-                x.ship(6);
-            }
-            due(x.status(0), 511);
-        });
-        test("An object is used for at most 512 calls after it has been made;", "so many on one that is full in all", () -> {
-            LeftBehind x = crowded();
-            long before = x.digest();
-            for (int i = 0; i < 300; i++) {
-                x.crew(1 + i % 30, i % 8);
-            }
-            due(x.digest(), before);
-        });
-    }
-
-    private static void face() {
-        test("public static final int NONE = -1, BAD = -2, NO = -3, FULL = -4;", "each", () -> {
-            due("NONE", LeftBehind.NONE, -1);
-            due("BAD", LeftBehind.BAD, -2);
-            due("NO", LeftBehind.NO, -3);
-            due("FULL", LeftBehind.FULL, -4);
-        });
     }
 
     private static void ships() {
@@ -345,6 +314,12 @@ final class TermEdges extends Edge {
             x -> x.note(3, 1, 0, 0), x -> x.mark(0, 0, 0, 0)));
         test(words, "FULL where no number is bad", () -> full(Edge::crowded, x -> x.ship(0), x -> x.man(0, 1, 0), x -> x.type(32),
             x -> x.seen(0, 0, 0, 0), x -> x.note(0, 1, 0, 0), x -> x.mark(0, 1, 0, 0)));
+        test(words, "many numbers bad at once are one refusal", () -> {
+            bad(Edge::crowded, x -> x.man(6, 0, 3), x -> x.boards(3, 8), x -> x.of(8, 4), x -> x.about(3, 4), x -> x.needs(3, 0),
+                x -> x.behind(3, 0), x -> x.lasts(3, 31), x -> x.seen(8, 100, 31, 2), x -> x.skilled(8, 3), x -> x.note(3, 31, 9, 100),
+                x -> x.mark(8, 10, 100, 41), x -> x.water(3, 3, 31), x -> x.lots(8, 9), x -> x.centuries(-1, 61));
+            refused(Edge::crowded, -10, 0, x -> x.few(73, 3), x -> x.crew(31, 8));
+        });
         test("(where others are told they count as these).", "few's and crew's -10, status's -1", () -> {
             refused(Edge::busy, -10, 0, x -> x.few(0, 0), x -> x.few(73, 0), x -> x.crew(0, 0), x -> x.crew(31, 0));
             refused(Edge::busy, -1, 0, x -> x.status(3), x -> x.status(-1));
