@@ -103,7 +103,7 @@ final class LanguageTests {
             Check.holds("rule 1: " + m, Modifier.isPrivate(m.getModifiers()) || Modifier.isPublic(m.getModifiers()));
         }
         String[] files = Path.of(LeftBehind.class.getProtectionDomain().getCodeSource().getLocation().getPath()).toFile().list();
-        long compiled = Arrays.stream(files).filter(f -> f.startsWith("LeftBehind")).count();
+        long compiled = Arrays.stream(files).filter(f -> f.matches("LeftBehind.*\\.class")).count();
         Check.due("rule 2: classes compiled", compiled, allClasses().size());
     }
 

@@ -217,6 +217,15 @@ final class LeftEdges extends Edge {
             due("12", x.few(12, NONE), 3);
             due("16", x.few(16, NONE), 3);
         });
+        test(words, "two of one ship, six of another, however many are asked for", () -> {
+            LeftBehind x = plain(aboard(9, 9), aboard(1, 1, 1, 1, 1, 1));
+            int[] few = {1, 1, 1, 1, 1, 1, 1, 1, 1, 2, 2, 2, 2, 2, 2, 2, 2, 2, 3, 4, 5, 6, 7, 8, -6};
+            int[] first = {0, 1, 1, 1, 1, 1, 1, 1, 1, 1, 2, 2, 2, 2, 2, 2, 2, 2, 2, 2, 2, 2, 2, 2, -6};
+            for (int i = 0; i < few.length; i++) {
+                due(i + 1 + " in all", x.few(i + 1, NONE), few[i]);
+                due(i + 1 + ", made by the first", x.few(i + 1, 0), first[i]);
+            }
+        });
         test(words, "those on the island count", () -> {
             LeftBehind x = plain(aboard(2, 9));
             x.man(0, 4, NONE);
@@ -404,6 +413,12 @@ final class LeftEdges extends Edge {
         test(words, "all eight go", () -> {
             dueWay(ashore(aboard(0), 1, 1, 1, 1, 1, 1, 1, 1), 4, 0, 0, 0, 0, 0, 0, 0, 0);
             dueWay(ashore(aboard(0, 0, 0), 3, 3, 2, 4, 4, 3, 3, 2), 4, 0, 0, 0, 1, 1, 2, 2, 2);
+        });
+        test(words, "all eight go to the last ship, the others needing more", () -> {
+            LeftBehind x = ashore(aboard(1, 1, 0), 1, 1, 1, 1, 1, 1, 1, 1);
+            due("how many", x.crew(4, NONE), 1);
+            dueWay(x, 4, 2, 2, 2, 2, 2, 2, 2, 2);
+            due("to sail 5, none", x.crew(5, NONE), 0);
         });
         test(words, "unlike ships: who fits no other goes where he fits", () ->
             dueWay(ashore(aboard(1, 2, 0), 2, 6, 1), 1, 2, 0, 1));

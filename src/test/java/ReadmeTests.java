@@ -63,7 +63,7 @@ final class ReadmeTests {
 
     private static void example(String readme) throws Exception {
         String program = block(readme, "How to use it", "java");
-        Path folder = Files.createTempDirectory("readme");
+        Path folder = ownFolder();
         Path file = folder.resolve("Example.java");
         Files.writeString(file, program);
         String classes = System.getProperty("java.class.path");
@@ -75,10 +75,12 @@ final class ReadmeTests {
             String due = block(readme, "It prints:", "text");
             Check.holds("README: the example prints what stands there, not\n" + printed, printed.equals(due));
         }
-        for (String left : new String[] {"Example.class", "Example.java"}) {
-            Files.deleteIfExists(folder.resolve(left));
-        }
-        Files.delete(folder);
+    }
+
+    /** Beside the folder of the compiled tests, so that nothing is written but where they are. */
+    private static Path ownFolder() throws Exception {
+        Path tests = Path.of(ReadmeTests.class.getProtectionDomain().getCodeSource().getLocation().toURI());
+        return Files.createDirectories(tests.resolveSibling("readme"));
     }
 
     private static String printedBy(Path folder) throws ReflectiveOperationException, IOException {

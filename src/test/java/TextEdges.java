@@ -287,6 +287,16 @@ final class TextEdges extends Edge {
             faults("island;boards 0 0;", 7);
             faults("island;x;", 7);
         });
+        test("a word that is none,", "one letter another, at each place of each word", () -> {
+            String there = "island;ship 0;man 0 1 0;call 0;board 0 0;";
+            reads(there, 5);
+            for (String word : new String[] {"island", "ship", "man", "call", "board"}) {
+                int at = there.indexOf(word);
+                for (int i = at; i < at + word.length(); i++) {
+                    faults(there.substring(0, i) + "x" + there.substring(i + 1), at);
+                }
+            }
+        });
         test("a word that is none,", "cut off by the text's end", () -> {
             faults("islan", 0);
             faults("island;shi", 7);
@@ -508,6 +518,15 @@ final class TextEdges extends Edge {
             due("ship 1", x.about(1, 0), BAD);
             due("calls", x.count(4), 1);
             due("on the island", x.count(2), 2);
+        });
+        test(words, "an island on which nobody is, too", () -> {
+            LeftBehind x = crowded();
+            x.clear();
+            type(x, "island;");
+            due("items", x.read(), 1);
+            for (int what = 0; what <= 8; what++) {
+                due("count " + what, x.count(what), 0);
+            }
         });
         test(words, "images", () -> {
             LeftBehind x = busy();
